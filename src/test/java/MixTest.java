@@ -1,3 +1,4 @@
+import java.util.Arrays;
 import java.util.Random;
 
 /** MIX against every combination of notes: fewest, then the most of CASSETTES 3, 2 and 1. */
@@ -71,6 +72,6 @@ public final class MixTest {
     private static boolean isBetter(int[] mix, int[] other) {
         int[] key = {-(mix[0] + mix[1] + mix[2] + mix[3]), mix[3], mix[2], mix[1]};
         int[] otherKey = {-(other[0] + other[1] + other[2] + other[3]), other[3], other[2], other[1]};
-        return java.util.Arrays.compare(key, otherKey) > 0;
+        return Arrays.compare(key, otherKey) > 0;
     }
 }
