@@ -610,11 +610,12 @@ public final class CashLink {
 
         /** A VOID of what did not come out, if there is such a rest. */
         private void voidRest(int cameOut) {
-            if (cameOut < amount) {
-                Entry voided = new Entry(Entry.VOIDED, id, trace, amount - cameOut);
+            int rest = amount - cameOut;
+            if (rest > 0) {
+                Entry voided = new Entry(Entry.VOIDED, id, trace, rest);
                 journal.write(voided);
                 voids.add(voided);
-                network.send(Type.REVERSAL, id, trace, 0, amount - cameOut, 0);
+                network.send(Type.REVERSAL, id, trace, 0, rest, 0);
             }
         }
 
@@ -659,7 +660,6 @@ public final class CashLink {
                 Entry entry = journal.entry(i);
                 if (entry.kind() == Entry.ASKED) {
                     trace = entry.trace();
-                    account = entry.account();
                     amount = entry.value();
                 } else if (entry.kind() == Entry.VOIDED) {
                     voids.add(entry);

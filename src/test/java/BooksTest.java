@@ -111,16 +111,22 @@ public final class BooksTest {
     private static void roomInTheJournal() {
         CHECK.part("Term 2, room");
         CashLink x = new CashLink();
-        for (int i = 0; i < 399; i++) {
+        Bench.withdrawn(x, 0, 0, 600);
+        Bench.withdrawn(x, 0, 0, 600);
+        for (int i = 0; i < 397; i++) {
             Bench.asked(x, 0, i % 200, 10);
             x.cancel(0);
         }
         Bench.ready(x, 0, 1);
-        CHECK.unsupported("798 RECORDS, 399 VOIDS", () -> x.ask(0, 10));
+        CHECK.same("798 RECORDS, 397 VOIDS: just room for five", 400, x.ask(0, 10));
+        x.cancel(0);
+        Bench.ready(x, 0, 1);
+        CHECK.unsupported("800 RECORDS, 398 VOIDS", () -> x.ask(0, 10));
         CHECK.same("stays READY", 3, x.told(0, 0));
-        CHECK.same("no RECORD", 798, x.told(0, 3));
-        x.deliver(Bench.passed(x, 1));
-        CHECK.unsupported("799 RECORDS, 398 VOIDS: an answer needs the room that it frees", () -> x.ask(0, 10));
+        CHECK.same("no RECORD", 800, x.told(0, 3));
+        x.deliver(Bench.passed(x, 5));
+        CHECK.same("one VOID less", 397, x.told(0, 2));
+        CHECK.unsupported("801 RECORDS, 397 VOIDS: the answer took the room", () -> x.ask(0, 10));
     }
 
     private static void expect(CashLink x, int... due) {

@@ -79,7 +79,10 @@ public final class CustomerTest {
         CHECK.same("the card is kept", 1, x.told(1, 0));
         CHECK.illegalState("no CARD any more", () -> x.pin(1, 1000));
         x.card(1, 0);
-        CHECK.holds("a new CARD counts anew", !x.pin(1, 1001) && !x.pin(1, 1001) && x.pin(1, 1000));
+        CHECK.holds("a new CARD counts anew", !x.pin(1, 1001) && !x.pin(1, 1001));
+        x.cancel(1);
+        x.card(1, 0);
+        CHECK.holds("also after two wrong ones", !x.pin(1, 1001) && !x.pin(1, 1001) && x.pin(1, 1000));
         x.ask(1, 5);
         x.power(1, 0, 3);
         CHECK.powerFails("cancel", () -> x.cancel(1));

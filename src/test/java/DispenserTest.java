@@ -11,6 +11,7 @@ public final class DispenserTest {
         told();
         mix();
         mixAsItIsThen();
+        mostNotes();
         CHECK.end();
     }
 
@@ -176,6 +177,26 @@ public final class DispenserTest {
             CHECK.same("85 is one of each", 1, x.mix(0, 85, c));
         }
         CHECK.same("185", 3, x.mix(0, 185, 3));
+    }
+
+    private static void mostNotes() {
+        CHECK.part("promise 17, at most 40 notes");
+        CashLink x = new CashLink();
+        for (int a = 0; a < 30; a++) {
+            Bench.withdrawn(x, 0, a, 50);
+            Bench.withdrawn(x, 0, a, 20);
+        }
+        x.load(0, 1, 100);
+        CHECK.same("40 notes of 10", 40, x.mix(0, 400, 1));
+        CHECK.same("40 and one of 5", -1, x.mix(0, 405, 1));
+        CHECK.same("41", -1, x.mix(0, 410, 1));
+        CHECK.same("39 and one of 5", 39, x.mix(0, 395, 1));
+        Bench.ready(x, 0, 100);
+        CHECK.unsupported("ask(0, 405)", () -> x.ask(0, 405));
+        x.ask(0, 395);
+        x.jam(0, 40);
+        x.deliver(Bench.passed(x, x.count(0) - 1));
+        CHECK.same("all 40 come out", 395, x.taken(100));
     }
 
     private static void mixAsItIsThen() {
