@@ -14,10 +14,22 @@ final class Check {
         part = name;
     }
 
+    /** Names the sentence of the document to which the next checks hold the class. */
+    void sentence(String where, String words) {
+        part(where + ", \"" + words + "\"");
+    }
+
     void same(String what, long due, long got) {
         looked++;
         if (due != got) {
             report(what + " answered " + got + ", due is " + due);
+        }
+    }
+
+    void sameText(String what, String due, String got) {
+        looked++;
+        if (!due.equals(got)) {
+            report(what + " is " + got + ", due is " + due);
         }
     }
 
@@ -48,16 +60,21 @@ final class Check {
         thrown(what, ArithmeticException.class, call);
     }
 
-    private void thrown(String what, Class<? extends RuntimeException> due, Call call) {
+    /** Thrown by a throw of the class itself: it may leave no exception to the library. */
+    void thrown(String what, Class<? extends RuntimeException> due, Call call) {
         looked++;
-        Class<?> got = null;
+        RuntimeException got = null;
         try {
             call.run();
         } catch (RuntimeException e) {
-            got = e.getClass();
+            got = e;
         }
-        if (got != due) {
-            report(what + (got == null ? " threw nothing" : " threw " + got.getName()) + ", due is " + due.getName());
+        if (got == null) {
+            report(what + " threw nothing, due is " + due.getName());
+        } else if (got.getClass() != due) {
+            report(what + " threw " + got.getClass().getName() + ", due is " + due.getName());
+        } else if (!got.getStackTrace()[0].getClassName().startsWith("CashLink")) {
+            report(what + " left it to the library to throw " + due.getName());
         }
     }
 

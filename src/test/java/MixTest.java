@@ -3,8 +3,6 @@ import java.util.Random;
 
 /** MIX against every combination of notes: fewest, then the most of CASSETTES 3, 2 and 1. */
 public final class MixTest {
-    private static final int[] WORTH = {5, 10, 20, 50};
-
     public static void main(String[] args) {
         Check check = new Check();
         check.part("MIX at first");
@@ -57,7 +55,7 @@ public final class MixTest {
             for (int c = 0; c <= Math.min(40 - d, notes[2]); c++) {
                 for (int b = 0; b <= Math.min(40 - d - c, notes[1]); b++) {
                     for (int a = 0; a <= Math.min(40 - d - c - b, notes[0]); a++) {
-                        int v = a * WORTH[0] + b * WORTH[1] + c * WORTH[2] + d * WORTH[3];
+                        int v = 5 * a + 10 * b + 20 * c + 50 * d;
                         int[] mix = {a, b, c, d};
                         if (v <= 1000 && (best[v] == null || isBetter(mix, best[v]))) {
                             best[v] = mix;

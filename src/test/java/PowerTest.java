@@ -77,7 +77,7 @@ public final class PowerTest {
                 CashLink x = new CashLink();
                 x.jam(0, 1);
                 x.power(0, k, b);
-                boolean failed = fails(() -> {
+                boolean failed = Bench.fails(() -> {
                     Bench.withdrawn(x, 0, 7, 100);
                     x.deliver(Bench.passed(x, x.count(0) - 1));
                 });
@@ -103,7 +103,7 @@ public final class PowerTest {
                 CHECK.part("power(3, " + k + ", " + b + ") in a withdrawal that is declined");
                 CashLink x = new CashLink();
                 x.power(3, k, b);
-                boolean failed = fails(() -> Bench.withdrawn(x, 3, 7, 600));
+                boolean failed = Bench.fails(() -> Bench.withdrawn(x, 3, 7, 600));
                 CHECK.holds("power fails", failed == k < 2);
                 int whole = failed ? k + (b == 16 ? 1 : 0) : 2;
                 CHECK.same("on", whole, x.on(3));
@@ -120,9 +120,9 @@ public final class PowerTest {
                 CHECK.part("power(1, " + k + ", " + b + ") in turning on");
                 CashLink x = new CashLink();
                 x.power(1, 1, 16);
-                CHECK.holds("at RECORD 2", fails(() -> Bench.withdrawn(x, 1, 7, 100)));
+                CHECK.holds("at RECORD 2", Bench.fails(() -> Bench.withdrawn(x, 1, 7, 100)));
                 x.power(1, k, b);
-                boolean failed = fails(() -> x.on(1));
+                boolean failed = Bench.fails(() -> x.on(1));
                 CHECK.holds("power fails", failed == k < 2);
                 int whole = failed ? 2 + k + (b == 16 ? 1 : 0) : 4;
                 CHECK.same("RECORDS", whole, x.told(1, 3));
@@ -222,14 +222,5 @@ public final class PowerTest {
         CHECK.same("answer of 0510, first digit", '0', x.byteAt(x.count(0) - 1, 18));
         CHECK.same("answer of 0510, second digit", '0', x.byteAt(x.count(0) - 1, 19));
         CHECK.same("count(6)", 0, x.count(6));
-    }
-
-    private static boolean fails(Check.Call call) {
-        try {
-            call.run();
-            return false;
-        } catch (ArithmeticException e) {
-            return true;
-        }
     }
 }

@@ -9,7 +9,7 @@ import java.util.Random;
 /** Runs of calls drawn by a seed, on a CashLink and on the Oracle: each call answers or throws the same on both. */
 public final class RandomRunTest {
     private static final int RUNS = 2500;
-    private static final int CALLS = 400;
+    private static final int CALLS = 512;
     private static final Check CHECK = new Check();
 
     private static final String[] NAMES = {"card", "pin", "ask", "cancel", "again", "settle", "deliver", "jam",

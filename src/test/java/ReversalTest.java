@@ -49,7 +49,7 @@ public final class ReversalTest {
         CHECK.illegalArgument("MACHINE -1", () -> x.settle(-1));
         CHECK.illegalArgument("MACHINE 4", () -> x.settle(4));
         CHECK.same("nothing came out", 0, x.settle(0));
-        CHECK.holds("TRACE 0", Bench.text(x, 0).equals("0500" + "1020000000800000" + "000000000000" + "000000" + "00000000"));
+        CHECK.sameText("TRACE 0", "0500" + "1020000000800000" + "000000000000" + "00000000000000", Bench.text(x, 0));
         CHECK.same("0510", 1, x.deliver(0));
         Bench.withdrawn(x, 0, 1, 100);
         Bench.withdrawn(x, 0, 2, 35);
@@ -65,9 +65,9 @@ public final class ReversalTest {
         Bench.reversed(x, 0);
         CHECK.same("after all", 135, x.settle(0));
         int k = x.count(0) - 1;
-        CHECK.holds("TRACE 3", Bench.text(x, k).equals("0500" + "1020000000800000" + "000000000135" + "000003" + "00000000"));
+        CHECK.sameText("TRACE 3", "0500" + "1020000000800000" + "000000000135" + "00000300000000", Bench.text(x, k));
         CHECK.same("0510", 1, x.deliver(k));
-        CHECK.holds("answer 0", Bench.text(x, k + 1).equals("0510" + "0020000002800000" + "000003" + "00" + "00000000"));
+        CHECK.sameText("answer 0", "0510" + "0020000002800000" + "000003" + "00" + "00000000", Bench.text(x, k + 1));
         CHECK.same("0510 does nothing", 0, x.deliver(k + 1));
         CHECK.same("another MACHINE", 40, x.settle(1));
         x.power(0, 0, 8);
@@ -182,7 +182,7 @@ public final class ReversalTest {
         Bench.withdrawn(x, 1, 7, 100);
         Bench.answered(x, 1, 9, 5);
         CHECK.same("0510", 1, x.deliver(k));
-        CHECK.holds("answer 0", Bench.text(x, x.count(0) - 1).equals("0510" + "0020000002800000" + "000001" + "00" + "00000001"));
+        CHECK.sameText("answer 0", "0510" + "0020000002800000" + "0000010000000001", Bench.text(x, Bench.last(x)));
         CHECK.same("no wrong total", 0, x.count(6));
     }
 
