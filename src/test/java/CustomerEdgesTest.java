@@ -24,6 +24,7 @@ public final class CustomerEdgesTest {
         toldWithoutAny();
         toldOff();
         toldOfTheDispenser();
+        all512Calls();
         CHECK.end();
     }
 
@@ -335,5 +336,23 @@ public final class CustomerEdgesTest {
         CHECK.same("TRACE", 3, x.told(0, 8));
         CHECK.same("its value", 10, x.told(0, 9));
         CHECK.same("the value of all", 95, x.told(0, 10));
+    }
+
+    /** The last two of the calls are settle and deliver; what is asked behind them is free, but tells how they went. */
+    private static void all512Calls() {
+        CHECK.part("What it is, \"An object is used for at most 512 calls after it has been made\"");
+        CashLink x = new CashLink();
+        for (int i = 0; i < 102; i++) {
+            int m = i % 4;
+            x.card(m, i);
+            CHECK.holds("pin", x.pin(m, Bench.pinOf(i)));
+            CHECK.same("ask", i / 4 + 1, x.ask(m, 10));
+            CHECK.same("0200", 1, x.deliver(2 * i));
+            CHECK.same("0210", 0, x.deliver(2 * i + 1));
+        }
+        CHECK.same("settle", 260, x.settle(0));
+        CHECK.same("0500", 1, x.deliver(204));
+        CHECK.same("its answer", 0, Bench.answerOf(x, 205));
+        CHECK.same("all BALANCES", 100000 - 1020, x.count(3));
     }
 }
