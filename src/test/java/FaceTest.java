@@ -4,16 +4,25 @@ import java.lang.reflect.Method;
 import java.lang.reflect.Modifier;
 import java.util.Arrays;
 import java.util.Set;
+import java.util.StringJoiner;
 import java.util.TreeSet;
 
 /** The public face is the document's, and nothing else of the class can be seen (LANGUAGE.md, rule 1). */
 public final class FaceTest {
+    private static final String ARGUMENT = " IllegalArgumentException";
+    private static final String STATE = " IllegalStateException";
+    private static final String NONE_SUCH = " IndexOutOfBoundsException";
+    private static final String REFUSED = " UnsupportedOperationException";
+    private static final String POWER = " ArithmeticException";
     private static final String[] FACE = {
-        "void card(int, int)", "boolean pin(int, int)", "int ask(int, int)", "void cancel(int)",
-        "int again(int)", "int settle(int)", "int deliver(int)", "void jam(int, int)",
-        "int load(int, int, int)", "void power(int, int, int)", "int on(int)", "int told(int, int)",
-        "int balance(int)", "int taken(int)", "int byteAt(int, int)", "int mix(int, int, int)",
-        "int count(int)"};
+        "void card(int, int)" + ARGUMENT + STATE, "boolean pin(int, int)" + ARGUMENT + STATE,
+        "int ask(int, int)" + ARGUMENT + STATE + REFUSED + POWER, "void cancel(int)" + ARGUMENT + STATE + POWER,
+        "int again(int)" + ARGUMENT + STATE, "int settle(int)" + ARGUMENT + STATE,
+        "int deliver(int)" + NONE_SUCH + POWER, "void jam(int, int)" + ARGUMENT,
+        "int load(int, int, int)" + ARGUMENT + STATE, "void power(int, int, int)" + ARGUMENT,
+        "int on(int)" + ARGUMENT + POWER, "int told(int, int)" + ARGUMENT, "int balance(int)" + ARGUMENT,
+        "int taken(int)" + ARGUMENT, "int byteAt(int, int)" + NONE_SUCH, "int mix(int, int, int)" + ARGUMENT,
+        "int count(int)" + ARGUMENT};
 
     public static void main(String[] args) {
         Check check = new Check();
@@ -32,6 +41,10 @@ public final class FaceTest {
             check.holds("static class inside " + inside.getName(), Modifier.isStatic(inside.getModifiers())
                     && !Modifier.isPublic(inside.getModifiers()) && !Modifier.isProtected(inside.getModifiers()));
         }
+        noNameTwice(check, CashLink.class);
+        for (Class<?> inside : CashLink.class.getDeclaredClasses()) {
+            noNameTwice(check, inside);
+        }
         check.end();
     }
 
@@ -39,11 +52,40 @@ public final class FaceTest {
         Set<String> seen = new TreeSet<>();
         for (Method method : CashLink.class.getDeclaredMethods()) {
             if (!Modifier.isPrivate(method.getModifiers())) {
-                String types = Arrays.toString(method.getParameterTypes());
-                seen.add(method.getReturnType() + " " + method.getName()
-                        + "(" + types.substring(1, types.length() - 1) + ")");
+                seen.add(faceOf(method));
             }
         }
         return seen;
+    }
+
+    /** A method as FACE has it: its answer, name and parameters, and what it throws. */
+    private static String faceOf(Method method) {
+        StringJoiner types = new StringJoiner(", ", "(", ")");
+        for (Class<?> type : method.getParameterTypes()) {
+            types.add(type.getName());
+        }
+        StringBuilder out = new StringBuilder(method.getReturnType() + " " + method.getName() + types);
+        for (Class<?> thrown : method.getExceptionTypes()) {
+            out.append(' ').append(thrown.getSimpleName());
+        }
+        return out.toString();
+    }
+
+    /** "No private method bears the name of a public one." */
+    private static void noNameTwice(Check check, Class<?> in) {
+        for (Method method : in.getDeclaredMethods()) {
+            if (Modifier.isPrivate(method.getModifiers())) {
+                check.holds("a name of its own for " + method.getName() + " in " + in.getName(),
+                        !publicNames().contains(method.getName()));
+            }
+        }
+    }
+
+    private static Set<String> publicNames() {
+        Set<String> names = new TreeSet<>();
+        for (Method method : CashLink.class.getMethods()) {
+            names.add(method.getName());
+        }
+        return names;
     }
 }
